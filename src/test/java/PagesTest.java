@@ -5,6 +5,7 @@ final class PagesTest {
 
     public static void main(String[] args) {
         paper();
+        paperAtFirst();
         need();
         onePage();
         widths();
@@ -13,6 +14,8 @@ final class PagesTest {
         badTurns();
         fewestFirst();
         free();
+        freeAtTheEnds();
+        fortyPages();
         laying();
         staleBars();
         staleAround();
@@ -38,6 +41,16 @@ final class PagesTest {
         Due.is("its systems", x.systems(0, 0), 7);
         Due.is("paper(60, 6)", x.paper(60, 6), 1);
         Due.is("one system too many", x.pages(0, 0), 2);
+    }
+
+    private static void paperAtFirst() {
+        PartRoom x = Due.roomOf(3);
+        x.voice(0, 0);
+        x.notes(0, 0, 16, 1);
+        x.notes(0, 1, 16, 1);
+        Due.is("18, 18 and a rest fill 40", x.systems(0, 0), 1);
+        x.notes(0, 2, 3, 1);
+        Due.is("18, 18 and 5 don't", x.systems(0, 0), 2);
     }
 
     private static void need() {
@@ -153,6 +166,15 @@ final class PagesTest {
         x.notes(0, 8, 16, 1);
         x.paper(21, 1);
         Due.is("18 and 3 fill a system", x.pages(0, 0), 2);
+        x.notes(0, 8, 0, 0);
+        x.notes(0, 7, 1, 1);
+        x.notes(1, 7, 0, 0);
+        x.notes(1, 8, 14, 1);
+        x.due(1);
+        x.paper(22, 1);
+        Due.is("a cue of voice 0 is as wide", x.pages(1, 0), 2);
+        x.paper(23, 1);
+        Due.is("in 23, too", x.pages(1, 0), 1);
     }
 
     private static void badTurns() {
@@ -243,6 +265,40 @@ final class PagesTest {
         x.need(28);
         Due.is("turn behind bar 2", x.page(0, 1), 1);
         Due.is("just up to the notes", x.free(0, 0), 1);
+    }
+
+    private static void freeAtTheEnds() {
+        PartRoom x = Due.roomWithBars(7, 1, 1, 9);
+        x.voice(0, 0);
+        x.paper(21, 1);
+        x.notes(0, 1, 16, 1);
+        x.notes(0, 2, 16, 1);
+        Due.is("a page for each bar", x.pages(0, 0), 4);
+        Due.is("one bad turn", x.pages(0, 1), 1);
+        Due.is("from the first bar on", x.free(0, 0), 7);
+        Due.is("between notes", x.free(0, 1), 0);
+        Due.is("to the last bar", x.free(0, 2), 9);
+        x.notes(0, 3, 16, 1);
+        Due.is("nowhere", x.free(0, 2), 0);
+    }
+
+    private static void fortyPages() {
+        PartRoom x = Due.roomOf(40);
+        x.voice(0, 0);
+        x.paper(21, 1);
+        for (int b = 0; b < 40; b++) {
+            x.notes(0, b, 16, 1);
+        }
+        Due.is("a page for each bar", x.lay(0), 40);
+        Due.is("all turns are bad", x.pages(0, 1), 39);
+        Due.is("the last page", x.page(0, 39), 39);
+        Due.is("no page behind it", x.page(0, 40), Due.NONE);
+        Due.is("the last turn", x.free(0, 38), 0);
+        Due.is("no turn behind it", x.free(0, 39), Due.NONE);
+        Due.is("no systems behind it", x.systems(0, 40), Due.NONE);
+        Due.is("none is stale", x.stale(0), 0);
+        x.cut(0, 39, 1);
+        Due.is("all are stale", x.stale(0), 40);
     }
 
     private static void laying() {
