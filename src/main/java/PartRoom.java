@@ -609,10 +609,12 @@ public final class PartRoom {
         private final int[] freeAhead;
         private final int[] systemsTo;
         // From each place on: the fewest bad turns, the fewest pages with
-        // them, and the place where the page behind the first one begins.
+        // them, the place where the page behind the first one begins, and how
+        // many systems that first one has.
         private final int[] badFrom;
         private final int[] pagesFrom;
         private final int[] nextFrom;
+        private final int[] systemsFrom;
         private int width;
         private int lines;
         private int need;
@@ -625,6 +627,7 @@ public final class PartRoom {
             badFrom = new int[MAX_BARS + 1];
             pagesFrom = new int[MAX_BARS + 1];
             nextFrom = new int[MAX_BARS + 1];
+            systemsFrom = new int[MAX_BARS];
             width = 0;
             lines = 0;
             need = 0;
@@ -709,6 +712,7 @@ public final class PartRoom {
                     badFrom[place] = bad;
                     pagesFrom[place] = pages;
                     nextFrom[place] = next;
+                    systemsFrom[place] = systemsTo[next - 1];
                 }
             }
         }
@@ -728,8 +732,11 @@ public final class PartRoom {
 
         // The end of the part where there is no such page.
         private int placeOfPage(int i) {
+            if (i >= pageCount()) {
+                return part.size;
+            }
             int place = 0;
-            for (int k = 0; k < i && place < part.size; k++) {
+            for (int k = 0; k < i; k++) {
                 place = nextFrom[place];
             }
             return place;
@@ -740,20 +747,13 @@ public final class PartRoom {
         }
 
         int freeBehind(int i) {
-            int place = placeOfPage(i);
-            if (place >= part.size || nextFrom[place] >= part.size) {
-                return NONE;
-            }
-            return freeAhead[nextFrom[place]];
+            int next = nextFrom[placeOfPage(i)];
+            return next < part.size ? freeAhead[next] : NONE;
         }
 
         int systemsOf(int i) {
             int place = placeOfPage(i);
-            if (place >= part.size) {
-                return NONE;
-            }
-            fill(place);
-            return systemsTo[nextFrom[place] - 1];
+            return place < part.size ? systemsFrom[place] : NONE;
         }
     }
 

@@ -25,6 +25,7 @@ final class PartsEdgesTest {
         whichCue();
         keyRange();
         writtenNearest();
+        writtenOfAll();
         writtenOfTwo();
         writtenOfWhom();
         dueRange();
@@ -351,6 +352,32 @@ final class PartsEdgesTest {
         x.key(7);
         Due.is("KEY 7 of a VOICE", x.written(0), -5);
         Due.is("KEY 7 of a DESK", x.written(1), -5);
+    }
+
+    /** Every KEY with every SHIFT, looked for as the sentence tells it. */
+    private static void writtenOfAll() {
+        Due.says("that of KEY and 7 times its SHIFT, and any number of times 12, which is nearest to 0;"
+                + " of two (-6 and 6) the one below 0.");
+        for (int shift = -11; shift <= 11; shift++) {
+            PartRoom x = new PartRoom();
+            x.voice(2, shift);
+            for (int key = -7; key <= 7; key++) {
+                x.key(key);
+                Due.is("KEY " + key + ", SHIFT " + shift, x.written(0), nearestToNothing(key + 7 * shift));
+            }
+        }
+    }
+
+    private static int nearestToNothing(int fifths) {
+        int nearest = fifths;
+        for (int times = -20; times <= 20; times++) {
+            int other = fifths + 12 * times;
+            boolean nearer = Math.abs(other) < Math.abs(nearest);
+            if (nearer || Math.abs(other) == Math.abs(nearest) && other < 0) {
+                nearest = other;
+            }
+        }
+        return nearest;
     }
 
     private static void writtenOfTwo() {
